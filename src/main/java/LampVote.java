@@ -638,7 +638,8 @@ public final class LampVote {
         /** The answers that still wait for their & or | are bits, the latest one lowest. */
         private boolean holds(int clause, int[] here) {
             long answers = 0;
-            for (int i = clause == 0 ? 0 : ends[clause - 1]; i < ends[clause]; i++) {
+            int since = clause > 0 ? ends[clause - 1] : 0;
+            for (int i = since; i < ends[clause] && i < code.length; i++) {
                 int part = code[i];
                 if (part == NOT) {
                     answers ^= 1;
@@ -665,7 +666,9 @@ public final class LampVote {
         private static final String SUBJECTS = "pqmw", RELATIONS = "<=>";
         /** Stands among what is pending, never in the code. */
         private static final int OPENED = -4;
-        private static final int MOST_OPEN = 5, MOST_PENDING = 20, WHOLE = -1;
+        private static final int MOST_OPEN = 5, WHOLE = -1;
+        /** Those that are open, and an & and a | ahead of each and behind the last. */
+        private static final int MOST_PENDING = MOST_OPEN + 2 * (MOST_OPEN + 1);
 
         private final int[] words = new int[MOST_CLAUSES];
         private final int[] amounts = new int[MOST_CLAUSES];
@@ -734,7 +737,6 @@ public final class LampVote {
                 if (WORDS.charAt(STARTS[w]) == sign) {
                     word = w;
                     letter = STARTS[w] + 1;
-                    number = 0;
                     due = LETTER;
                     return true;
                 }
@@ -825,7 +827,6 @@ public final class LampVote {
                 }
             }
             write(subject << Tide.BITS | so);
-            writePending(Tide.NOT);
             due = JOINT;
         }
 
@@ -859,7 +860,6 @@ public final class LampVote {
             }
             pended--;
             open--;
-            writePending(Tide.NOT);
             return true;
         }
 
@@ -887,7 +887,7 @@ public final class LampVote {
             }
         }
 
-        /** What is pending and binds as tight as the told one goes into the code, the latest first. */
+        /** What is pending and binds as tight as the told one, or tighter, goes into the code, the latest first. */
         private void writePending(int tight) {
             for (; pended > 0 && pending[pended - 1] >= tight; pended--) {
                 if (pending[pended - 1] == Tide.NOT) {
