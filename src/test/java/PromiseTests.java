@@ -282,6 +282,17 @@ public final class PromiseTests {
         holds("p=0|p=1|p=4", 11, 11, 1, 1, 11);
         holds("p>0&p<4&!p=2", 1, 11, 1, 11, 1);
         holds("!(!(p=1)&!p=3)", 1, 11, 1, 11, 1);
+        // as deep as E goes, with a | and an & that wait at each level
+        holds("p=9|p<9&(p=9|p<9&(p=9|p<9&(p=9|p<9&(p=9|p<9&(p=9|p<9&p=2)))))", 1, 1, 11, 1, 1);
+        // long texts with faults leave room for a sound one
+        LampVote y = new LampVote();
+        String tests = "p=1&p=1&p=1&p=1&p=1&p=1&p=1&p=1&p=1&p=1&p=1&p=1&p=1&p=1&p=1&p=1&p=1&p=1&p=1&p=1&";
+        due(-95, tide(y, "hold " + tests));
+        due(-95, tide(y, "hold " + tests + "&"));
+        due(-95, tide(y, "hold " + tests + "x"));
+        due(0, tide(y, "weigh 3 " + tests + "p=1"));
+        due(4, y.at(1, 5));
+        due(1, y.at(2, 5));
         // all weigh whose E holds, together
         LampVote x = under("weigh 3 p<2;weigh 5 p=0;weigh 0 p=0;side p=0;oil 9 p=0");
         due(9, x.at(0, 5));
