@@ -370,7 +370,7 @@ public final class LampVote {
         if (!now.hasVoter(voter) || !within(act, 0, ACTS - 1)) {
             return 0;
         }
-        return acts.run(voter, now.voter[voter][KIND], act, x, 0);
+        return acts.answer(voter, act, x);
     }
 
     public int trace(int i) {
@@ -1210,8 +1210,12 @@ public final class LampVote {
             return doer;
         }
 
+        int answer(int voter, int act, int x) {
+            return run(voter, canal.voter[voter][KIND], act, x, 0);
+        }
+
         /** The act as the kind, or the next one above it with such a body, does it. */
-        int run(int voter, int kind, int act, int x, int deep) {
+        private int run(int voter, int kind, int act, int x, int deep) {
             int doer = doerOf(kind, act);
             if (doer < VOTER || deep > MOST_DEEP) {
                 return 0;
