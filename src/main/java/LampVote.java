@@ -1068,11 +1068,12 @@ public final class LampVote {
 
         int bestFor(int voter) {
             int best = 0;
-            int most = Integer.MIN_VALUE;
+            int most = 0;
             for (int p = 0; p < canal.places; p++) {
                 light(voter, p);
-                if (leadOf(voter) > most) {
-                    most = leadOf(voter);
+                int lead = leadOf(voter);
+                if (p == 0 || lead > most) {
+                    most = lead;
                     best = p;
                 }
             }
@@ -1087,10 +1088,10 @@ public final class LampVote {
 
         int firstOf(int one, int other) {
             int best = 0;
-            int most = Integer.MIN_VALUE;
+            int most = 0;
             for (int p = 0; p < canal.places; p++) {
                 int lead = leadBehind(one, p, other);
-                if (lead > most) {
+                if (p == 0 || lead > most) {
                     most = lead;
                     best = p;
                 }

@@ -7,7 +7,9 @@ import java.nio.charset.StandardCharsets;
 import java.nio.file.Files;
 import java.nio.file.Path;
 import java.util.List;
+import java.util.Map;
 import java.util.Set;
+import java.util.TreeMap;
 import java.util.TreeSet;
 import java.util.regex.Matcher;
 import java.util.regex.Pattern;
@@ -111,27 +113,84 @@ public final class LanguageTests {
         while (imports.find()) {
             must(imports.group(1).equals("java.util.Arrays"), "rule 4: " + imports.group(1));
         }
+        library(code);
         for (String line : code.split("\n")) {
             must(line.length() <= 120, "a line of over 120 signs: " + line);
         }
-        lengths(text.split("\n"));
+        calls(methods(code.split("\n")));
+    }
+
+    /** Long.MIN_VALUE stands in the document's face; else the rule lets through functions, no constants. */
+    private static void library(String code) {
+        Set<String> told = Set.of("Arrays.copyOf", "Arrays.copyOfRange", "Arrays.fill", "System.arraycopy",
+                "Math.min", "Math.max", "Math.abs", "Math.floorDiv", "Math.floorMod", "Integer.bitCount");
+        String rest = code.replace("NO = Long.MIN_VALUE;", "");
+        Matcher used = Pattern.compile("\\b(Arrays|System|Math|StrictMath|Integer|Long|Character|String|Boolean)\\.\\w+")
+                .matcher(rest.replaceAll("import [^;]*;", ""));
+        while (used.find()) {
+            must(told.contains(used.group()), "rule 4: " + used.group() + " is not told there");
+        }
+        Matcher made = Pattern.compile("\\bnew (\\w+)").matcher(code);
+        while (made.find()) {
+            must(Set.of("int", "Canal", "Night", "Acts", "Reader", "Tide").contains(made.group(1)),
+                    "rule 4 or 12: new " + made.group(1));
+        }
     }
 
     /** A method ends at the first bracket that stands as far in as its head. */
-    private static void lengths(String[] lines) {
-        Pattern head = Pattern.compile("( {4}| {8})(?!if|for|while|switch|return|else)[a-zA-Z].*\\) \\{");
-        int methods = 0;
+    private static Map<String, String> methods(String[] lines) {
+        Pattern head = Pattern.compile("( {4}| {8})(?!if|for|while|switch|return|else)[a-zA-Z].*?(\\w+)\\(.*\\) \\{"
+                + "|( {4}| {8})([A-Z]\\w+)\\(.*\\) \\{");
+        Map<String, String> bodies = new TreeMap<>();
         for (int i = 0; i < lines.length; i++) {
             Matcher m = head.matcher(lines[i]);
             if (m.matches()) {
-                methods++;
-                int end = i;
-                while (end < lines.length && !lines[end].equals(m.group(1) + "}")) {
+                boolean plain = m.group(1) != null;
+                StringBuilder body = new StringBuilder();
+                int end = i + 1;
+                while (end < lines.length && !lines[end].equals((plain ? m.group(1) : m.group(3)) + "}")) {
+                    body.append(lines[end]).append('\n');
                     end++;
                 }
                 must(end - i < 60, "rule 11: a method of over 60 lines: " + lines[i].trim());
+                bodies.merge(plain ? m.group(2) : m.group(4), body.toString(), String::concat);
             }
         }
-        must(methods > 80, "the methods were found");
+        must(bodies.size() > 80, "the methods were found");
+        return bodies;
+    }
+
+    /** A method that calls itself is a recursion, whose depth rule 8 tells; it is taken once. */
+    private static int depth(String name, Map<String, String> bodies, Map<String, Integer> known, Set<String> open) {
+        if (known.containsKey(name)) {
+            return known.get(name);
+        }
+        if (!open.add(name)) {
+            must(name.equals("run"), "rule 8: " + name + " calls itself");
+            return 0;
+        }
+        int below = 0;
+        Matcher calls = Pattern.compile("\\b(\\w+)\\(").matcher(bodies.get(name));
+        while (calls.find()) {
+            if (bodies.containsKey(calls.group(1))) {
+                below = Math.max(below, depth(calls.group(1), bodies, known, open));
+            }
+        }
+        open.remove(name);
+        known.put(name, below + 1);
+        return below + 1;
+    }
+
+    private static void calls(Map<String, String> bodies) {
+        Map<String, Integer> known = new TreeMap<>();
+        int deepest = 0;
+        for (String call : FACE.split(" ")) {
+            String name = call.substring(0, call.indexOf('('));
+            must(bodies.containsKey(name), name + " was found");
+            int deep = depth(name, bodies, known, new TreeSet<>());
+            must(deep <= 8, "rule 11: " + name + " goes " + deep + " deep");
+            deepest = Math.max(deepest, deep);
+        }
+        must(deepest >= 6, "calls were found");
     }
 }
